@@ -17,6 +17,7 @@ public final class AskTest {
     promise12OneOfRank2AheadOfFourOthers();
     promise12MostOfRank1AheadOfRank0();
     promise12MostAheadOfFewestSubstitutes();
+    promise12FiveSubstitutesAheadOfFourOfTheirKind();
     promise12FewestSubstitutes();
     promise12FirstRow();
     promise12NoneBehindAll();
@@ -178,12 +179,12 @@ public final class AskTest {
 
   private static void promise12MostOfRank1AheadOfRank0() {
     ToolHouse x = houseOf(1, 0);
-    x.ask(0, 0, 0, 0, 9, 1);
     for (int i = 0; i < 4; i++) {
       x.ask(0, 0, 0, i, i, 0);
     }
+    x.ask(0, 0, 0, 0, 9, 1);
     due.is("plan()", x.plan(), 1);
-    row(x, 0, 0, -1, -1, -1, -1);
+    row(x, 0, -1, -1, -1, -1, 0);
     for (int i = 10; i < 13; i++) {
       x.ask(0, 0, 0, i, i, 0);
     }
@@ -206,6 +207,23 @@ public final class AskTest {
     }
     due.is("plan()", x.plan(), 4);
     row(x, 0, 0, 1, 2, 3);
+  }
+
+  /** Four could have their own things, but only if each goes to the next one's is there one for the fifth. */
+  private static void promise12FiveSubstitutesAheadOfFourOfTheirKind() {
+    ToolHouse x = new ToolHouse();
+    for (int i = 0; i < 5; i++) {
+      x.kind(0, 1 << i, 0);
+      x.thing(i);
+    }
+    x.kind(0, 0, 0);
+    x.member();
+    for (int i = 0; i < 4; i++) {
+      x.ask(0, i, 1 << (i + 1), 0, 0, 0);
+    }
+    x.ask(0, 5, 1, 0, 0, 0);
+    due.is("plan()", x.plan(), 5);
+    row(x, 0, 1, 2, 3, 4, 0);
   }
 
   private static void promise12FewestSubstitutes() {

@@ -180,6 +180,9 @@ public final class LawTest {
     fault("ever 0 1;", 1, 0);
     fault("everyy 0 1;", 1, 0);
     fault("everyevery 0 1;", 1, 0);
+    fault("everya 0 1;", 1, 0);
+    fault("everyz 0 1;", 1, 0);
+    fault("every 0 12every;", 1, 10);
     fault("  each 0 1;", 1, 2);
     fault("Every 0 1;", 1, 0);
     fault("everY 0 1;", 1, 0);

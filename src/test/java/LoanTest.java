@@ -19,7 +19,9 @@ public final class LoanTest {
     promise17LostWhenOver();
     promise17MovedWhenNear();
     promise17CareOfALateThing();
-    promise17ByRankThenFirstDayThenNumber();
+    promise17ByRankThenNumber();
+    promise17ByFirstDayAheadOfNumber();
+    promise17ByRankAheadOfFirstDay();
     promise17NotToALateThing();
     promise17FirstOtherThingThatFits();
     promise17LostThenFreesForMoved();
@@ -305,28 +307,65 @@ public final class LoanTest {
     due.of(x, 1, 2, 0);
   }
 
-  private static void promise17ByRankThenFirstDayThenNumber() {
-    int[][] asks = {{6, 8, 0}, {6, 8, 1}, {7, 8, 1}, {6, 8, 1}};
-    ToolHouse x = houseOf(6, 5, 0);
-    for (int i = 0; i < 4; i++) {
+  private static void promise17ByRankThenNumber() {
+    int[] ranks = {0, 1, 0, 1, 2};
+    ToolHouse x = houseOf(8, 5, 0);
+    for (int i = 0; i < 5; i++) {
       x.ask(0, 0, 0, 0, 0, 0);
     }
     x.plan();
-    for (int i = 0; i < 4; i++) {
+    for (int i = 0; i < 5; i++) {
       x.out(i);
-      x.ask(0, 0, 0, asks[i][0], asks[i][1], asks[i][2]);
+      x.ask(0, 0, 0, 6, 8, ranks[i]);
     }
     x.plan();
-    for (int i = 0; i < 4; i++) {
-      due.of(x, 4 + i, 1, i);
+    for (int i = 0; i < 5; i++) {
+      due.of(x, 5 + i, 1, i);
     }
     x.days(1);
-    due.of(x, 4, 0, 5);
-    due.of(x, 5, 1, 4);
-    due.of(x, 6, 1, 2);
-    due.of(x, 7, 1, 5);
+    due.of(x, 5, 0, 5);
+    due.of(x, 6, 1, 6);
+    due.of(x, 7, 0, 5);
+    due.of(x, 8, 1, 7);
+    due.of(x, 9, 1, 5);
+  }
+
+  /** Two late things of unlike care, so that bookings of unlike first days must move on one day. */
+  private static ToolHouse houseOfTwoThatMove(int rankOfFirst, int rankOfSecond) {
+    ToolHouse x = new ToolHouse();
+    x.kind(3, 1, 0);
+    x.kind(0, 1, 0);
+    x.kind(0, 1, 0);
+    x.thing(0);
+    x.thing(1);
+    x.thing(2);
+    x.member();
+    x.ask(0, 0, 0, 0, 0, 0);
+    x.ask(0, 1, 0, 0, 0, 0);
+    x.plan();
+    x.out(0);
+    x.out(1);
+    x.ask(0, 0, 1, 4, 5, rankOfFirst);
+    x.ask(0, 1, 1, 1, 6, rankOfSecond);
+    x.plan();
+    due.of(x, 2, 1, 0);
+    due.of(x, 3, 1, 1);
     x.days(1);
-    due.of(x, 6, 0, 5);
+    return x;
+  }
+
+  private static void promise17ByFirstDayAheadOfNumber() {
+    ToolHouse x = houseOfTwoThatMove(1, 1);
+    due.of(x, 2, 0, 5);
+    due.of(x, 3, 1, 2);
+    due.of(x, 3, 2, 1);
+  }
+
+  private static void promise17ByRankAheadOfFirstDay() {
+    ToolHouse x = houseOfTwoThatMove(2, 1);
+    due.of(x, 2, 1, 2);
+    due.of(x, 2, 8, 1);
+    due.of(x, 3, 0, 5);
   }
 
   private static void promise17NotToALateThing() {
