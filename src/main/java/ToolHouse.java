@@ -806,8 +806,9 @@ public final class ToolHouse {
             }
             weigh(thing, mayHave);
             // From the greatest set down: what is left of a set is a lesser one, and still without this thing.
-            for (int set = SETS - 1; set > 0; set--) {
-                for (int part = set; part > 0; part = (part - 1) & set) {
+            for (int set = wholeRow(); set > 0; set--) {
+                int parts = set & mayHave;
+                for (int part = parts; part > 0; part = (part - 1) & parts) {
                     if (gains[part] > 0) {
                         most[set] = Math.max(most[set], most[set ^ part] + gains[part]);
                     }
@@ -817,7 +818,7 @@ public final class ToolHouse {
 
         /** The number of the thing that the best plan gives to the ask at a place of the row, or NONE. */
         int thingAtRow(int at) {
-            int sum = most[SETS - 1];
+            int sum = most[wholeRow()];
             for (int i = at; i < MOST_PENDING - 1; i++) {
                 sum /= BASE;
             }
@@ -825,9 +826,13 @@ public final class ToolHouse {
             return digit == 0 ? NONE : MOST_THINGS - digit;
         }
 
+        private int wholeRow() {
+            return size >= 0 && size <= MOST_PENDING ? (1 << size) - 1 : 0;
+        }
+
         private void weigh(Thing thing, int mayHave) {
             gains[0] = 0;
-            for (int i = 0; i < MOST_PENDING; i++) {
+            for (int i = 0; i < size && i < MOST_PENDING; i++) {
                 int one = 1 << i;
                 Ask ask = (mayHave & one) == 0 ? null : askAtRow(i);
                 int worth = ask == null ? 0 : worthOf(ask, thing, i);
