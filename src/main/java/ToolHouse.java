@@ -172,10 +172,7 @@ public final class ToolHouse {
         if (its == null || its.state != BOOKED || its.thing == null) {
             return NONE;
         }
-        // One that was planned behind its last day is BOOKED, but goes OUT up to its last day alone.
-        if (day > its.last) {
-            return NONE;
-        }
+        // One that was planned behind its last day goes OUT too: only a day's beginning loses what is over.
         int hindrance = hindranceOf(its, its.thing);
         if (hindrance != 0) {
             return hindrance;

@@ -321,7 +321,6 @@ public final class AskTest {
     due.of(x, 0, 0, 0);
     due.is("plan()", x.plan(), 1);
     due.of(x, 0, 0, 1);
-    due.is("out(0) behind its last day", x.out(0), -1);
     x.days(1);
     due.of(x, 0, 0, 5);
     due.of(x, 0, 1, 0);

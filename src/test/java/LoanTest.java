@@ -10,6 +10,12 @@ public final class LoanTest {
     promise14Law();
     promise14LawBehindHours();
     promise14OutBehindCare();
+    promise14BehindItsLastDay();
+    promise14BehindItsLastDayLawAndHours();
+    promise14ThingIsOut();
+    promise14ThingIsOutWithAnotherOfLaterDays();
+    promise14Care();
+    promise14CareBehindLaw();
     promise15Back();
     promise15Fees();
     promise15FeeOfASubstitute();
@@ -26,6 +32,7 @@ public final class LoanTest {
     promise17FirstOtherThingThatFits();
     promise17LostThenFreesForMoved();
     promise17MovedTwice();
+    promise17MovedFromOneThatWentOutBehindItsLastDay();
     promise17EachDayBegins();
     due.finish();
   }
@@ -147,6 +154,140 @@ public final class LoanTest {
     due.of(x, 2, 0, 1);
     x.days(3);
     due.is("out(2) behind BACK and CARE", x.out(2), 0);
+  }
+
+  /** An ask that is planned only when its days are over is BOOKED until the next day begins, and goes OUT. */
+  private static void promise14BehindItsLastDay() {
+    ToolHouse x = houseOf(1, 1, 10);
+    x.ask(0, 0, 0, 0, 1, 0);
+    x.days(5);
+    due.is("plan() behind its last day", x.plan(), 1);
+    due.is("isFree(0, 5, 5) of one that is BOOKED", x.isFree(0, 5, 5), 1);
+    due.is("out(0) behind its last day", x.out(0), 0);
+    due.of(x, 0, 0, 3);
+    due.is("thing's ask", x.thingOf(0, 2), 0);
+    due.is("LATE at once", x.thingOf(0, 3), 1);
+    due.is("BOOKED on it", x.thingOf(0, 4), 0);
+    due.is("member's asks", x.memberOf(0, 2), 1);
+    due.is("look(0)", x.look(0), false);
+    due.is("isFree(0, 6, 6)", x.isFree(0, 6, 6), 0);
+    due.is("isFree(0, 7, 7)", x.isFree(0, 7, 7), 1);
+    due.is("off(0)", x.off(0), false);
+    x.days(1);
+    due.of(x, 0, 0, 3);
+    due.is("isFree(0, 7, 7) a day later", x.isFree(0, 7, 7), 0);
+    due.is("back(0)", x.back(0), 5);
+    due.is("HOURS", x.memberOf(0, 0), 12);
+    due.is("FEES", x.memberOf(0, 1), 120);
+  }
+
+  private static void promise14BehindItsLastDayLawAndHours() {
+    ToolHouse x = houseOf(2, 0, 0);
+    book(x, 0, 0, 0);
+    x.out(0);
+    x.days(25);
+    x.back(0);
+    x.ask(0, 0, 0, 25, 25, 0);
+    x.days(1);
+    Due.tell(x, "every 0 0;");
+    x.plan();
+    due.is("51 HOURS", x.out(1), -3);
+    x.work(0, 11);
+    due.is("the LAW without a look", x.out(1), -5);
+    due.of(x, 1, 0, 1);
+    due.of(x, 1, 1, 1);
+    x.look(1);
+    due.is("a look behind the last day", x.out(1), 0);
+    x.back(1);
+    x.work(0, 100);
+    x.ask(0, 0, 0, 30, 31, 0);
+    x.look(0);
+    x.days(6);
+    x.plan();
+    due.of(x, 2, 1, 0);
+    due.is("a look 5 days ahead of the last day", x.out(2), -5);
+    Due.tell(x, "every 0 5;");
+    due.is("a look 5 days ahead, 5 wanted", x.out(2), 0);
+  }
+
+  private static void promise14ThingIsOut() {
+    ToolHouse x = houseOf(1, 0, 0);
+    x.member();
+    x.ask(1, 0, 0, 0, 0, 0);
+    x.days(1);
+    x.ask(0, 0, 0, 1, 3, 0);
+    x.ask(0, 0, 0, 4, 4, 0);
+    due.is("plan()", x.plan(), 3);
+    due.is("out(0) behind its last day", x.out(0), 0);
+    due.is("out(1) of a THING that is OUT", x.out(1), -4);
+    due.is("out(2) ahead of its first day", x.out(2), -2);
+    due.of(x, 1, 0, 1);
+    due.is("thing's ask", x.thingOf(0, 2), 0);
+    Due.tell(x, "every 0 0;");
+    due.is("OUT ahead of the LAW", x.out(1), -4);
+    due.is("member's asks", x.memberOf(0, 2), 0);
+    ToolHouse y = houseOf(2, 0, 0);
+    book(y, 0, 14, 0);
+    y.ask(0, 0, 0, 0, 0, 0);
+    y.out(0);
+    y.days(30);
+    y.ask(0, 0, 0, 30, 30, 0);
+    y.plan();
+    due.of(y, 1, 1, 1);
+    due.of(y, 2, 1, 1);
+    y.back(0);
+    y.out(1);
+    due.is("HOURS ahead of OUT", y.out(2), -3);
+  }
+
+  /** The one that is OUT has the later days here: the late one was planned ahead of it. */
+  private static void promise14ThingIsOutWithAnotherOfLaterDays() {
+    ToolHouse x = houseOf(1, 0, 0);
+    x.ask(0, 0, 0, 0, 0, 0);
+    x.days(1);
+    x.ask(0, 0, 0, 1, 3, 0);
+    due.is("plan()", x.plan(), 2);
+    due.is("out(1)", x.out(1), 0);
+    due.is("out(0) of a THING that is OUT", x.out(0), -4);
+    due.of(x, 0, 0, 1);
+    x.days(1);
+    due.of(x, 0, 0, 5);
+    due.of(x, 1, 0, 3);
+  }
+
+  private static void promise14Care() {
+    for (int care = 0; care <= 5; care++) {
+      ToolHouse x = houseOf(1, care, 0);
+      int day = care + 1;
+      x.ask(0, 0, 0, 0, 0, 0);
+      x.ask(0, 0, 0, day, day + 9, 0);
+      x.days(day);
+      due.is("plan() with CARE " + care, x.plan(), 2);
+      x.out(0);
+      due.is("back(0)", x.back(0), day);
+      for (int i = 0; i <= care; i++) {
+        due.is("out(1) " + i + " days behind BACK, CARE " + care, x.out(1), -6);
+        due.of(x, 1, 0, 1);
+        x.days(1);
+      }
+      due.is("out(1) behind CARE " + care, x.out(1), 0);
+    }
+  }
+
+  private static void promise14CareBehindLaw() {
+    ToolHouse x = houseOf(1, 0, 0);
+    x.ask(0, 0, 0, 0, 0, 0);
+    x.ask(0, 0, 0, 1, 1, 0);
+    x.days(1);
+    x.plan();
+    x.out(0);
+    x.back(0);
+    Due.tell(x, "every 0 0;");
+    due.is("the LAW ahead of CARE", x.out(1), -5);
+    x.look(0);
+    due.is("CARE then", x.out(1), -6);
+    x.days(1);
+    due.of(x, 1, 0, 5);
   }
 
   private static void promise15Back() {
@@ -475,6 +616,33 @@ public final class LoanTest {
     due.of(x, 2, 1, 2);
     due.of(x, 2, 2, 2);
     due.of(x, 2, 0, 1);
+  }
+
+  private static void promise17MovedFromOneThatWentOutBehindItsLastDay() {
+    ToolHouse x = houseOf(2, 0, 0);
+    x.ask(0, 0, 0, 0, 0, 0);
+    x.days(1);
+    x.ask(0, 0, 0, 1, 3, 0);
+    x.ask(0, 0, 0, 4, 5, 0);
+    x.plan();
+    x.out(0);
+    due.of(x, 1, 1, 0);
+    due.of(x, 2, 1, 0);
+    x.days(1);
+    due.of(x, 0, 0, 3);
+    due.of(x, 1, 1, 1);
+    due.of(x, 1, 2, 1);
+    due.of(x, 2, 1, 0);
+    due.is("out(1) on the other THING", x.out(1), 0);
+    ToolHouse y = houseOf(1, 0, 0);
+    y.ask(0, 0, 0, 0, 0, 0);
+    y.days(1);
+    y.ask(0, 0, 0, 1, 3, 0);
+    y.plan();
+    y.out(0);
+    y.days(1);
+    due.of(y, 1, 0, 5);
+    due.of(y, 1, 2, 0);
   }
 
   /** A jump of days is as good as as many single ones. */

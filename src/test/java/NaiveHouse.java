@@ -240,7 +240,7 @@ final class NaiveHouse {
   }
 
   int out(int ask) {
-    if (!in(ask, asks) || asks.get(ask).state != 1 || asks.get(ask).last < day) return NONE;
+    if (!in(ask, asks) || asks.get(ask).state != 1) return NONE;
     Ask it = asks.get(ask);
     Thing thing = things.get(it.thing);
     if (it.first > day) return -2;

@@ -23,6 +23,7 @@ public final class RandomRunsTest {
   private static final int[] states = new int[7];
   private static final int[] outs = new int[7];
   private static final int[] laws = new int[4];
+  private static int outsBehindLastDay = 0;
   private static int moved = 0;
   private static int substitutes = 0;
 
@@ -40,10 +41,13 @@ public final class RandomRunsTest {
         System.exit(1);
       }
     }
-    boolean all = moved > 0 && substitutes > 0 && outs[0] > 0 && outs[2] > 0 && outs[3] > 0 && outs[5] > 0
+    boolean all = moved > 0 && substitutes > 0 && outsBehindLastDay > 0
         && laws[0] > 0 && laws[2] > 0 && laws[3] > 0;
     for (int state : states) {
       all &= state > 0;
+    }
+    for (int out : outs) {
+      all &= out > 0;
     }
     if (!all) {
       System.out.println("the runs leave out answers that a run can give");
@@ -111,6 +115,7 @@ public final class RandomRunsTest {
     int ask = oneInState(1);
     int got = house.out(ask);
     outs[got >= -6 && got <= 0 ? -got : 1]++;
+    if (got == 0 && naive.of(ask, 6) < naive.count(4)) outsBehindLastDay++;
     return is("out " + ask, got, naive.out(ask));
   }
 
