@@ -20,6 +20,22 @@ final class Due {
     is(call, got ? 1 : 0, want ? 1 : 0);
   }
 
+  /** Two stories of houses: the first line in which they differ is told. */
+  void same(String when, String got, String want) {
+    asked++;
+    if (got.equals(want)) {
+      return;
+    }
+    wrong++;
+    String[] lines = got.split("\n");
+    String[] others = want.split("\n");
+    int at = 0;
+    while (at < lines.length - 1 && at < others.length - 1 && lines[at].equals(others[at])) {
+      at++;
+    }
+    System.out.println(when + " it tells '" + lines[at] + "', due is '" + others[at] + "'");
+  }
+
   /** The state, thing and so on of an ask. */
   void of(ToolHouse house, int ask, int what, long want) {
     is("of(" + ask + ", " + what + ")", answerOf(house, ask, what), want);
