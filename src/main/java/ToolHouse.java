@@ -663,12 +663,15 @@ public final class ToolHouse {
             fault = 0;
             place = NONE;
             due = DUE_EVERY;
-            for (int at = 0; at < tape.length && fault == 0; at++) {
+            int at = 0;
+            while (at < tape.length && fault == 0) {
+                int end = at + 1;
                 if (!isBlank(tape.byteAt(at))) {
-                    int end = endOfToken(tape, at);
+                    end = endOfToken(tape, at);
                     take(tape, at, end, kinds);
-                    at = end - 1;
                 }
+                // A step is never shorter than a byte, so the loop ends whatever a token's end is.
+                at = Math.max(at + 1, end);
             }
             if (fault == 0 && due != DUE_EVERY) {
                 blame(FAULT_OF_FORM, tape.length);
